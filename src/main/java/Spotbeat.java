@@ -211,13 +211,9 @@ public final class Spotbeat {
     }
 
     private static void requireVariant(int variant) {
-        if (!isVariant(variant)) {
+        if (variant < 0 || variant >= VARIANTS) {
             throw new IndexOutOfBoundsException("no such variant");
         }
-    }
-
-    private static boolean isVariant(int variant) {
-        return variant >= 0 && variant < VARIANTS;
     }
 
     private Spot spotAt(int number) {
@@ -571,22 +567,16 @@ public final class Spotbeat {
 
     private void work(Station station, Body body) {
         for (Robot robot : station.crew) {
-            if (robot != null) {
-                runProgram(robot, body);
+            Program program = robot == null ? null : robot.programFor(body.variant);
+            if (program == null) {
+                continue;
             }
-        }
-    }
-
-    private void runProgram(Robot robot, Body body) {
-        Program program = robot.programFor(body.variant);
-        if (program == null) {
-            return;
-        }
-        for (int step = 0; step < program.length; step++) {
-            Spot spot = spotWelded(program, step);
-            Robot welder = spot == null ? null : welderFor(robot, spot);
-            if (welder != null) {
-                weld(welder, spot, body);
+            for (int step = 0; step < program.length; step++) {
+                Spot spot = spotWelded(program, step);
+                Robot welder = spot == null ? null : welderFor(robot, spot);
+                if (welder != null) {
+                    weld(welder, spot, body);
+                }
             }
         }
     }
@@ -908,7 +898,7 @@ public final class Spotbeat {
         }
 
         boolean isOf(int variant) {
-            return isVariant(variant) && (variants >> variant & 1) == 1;
+            return variant >= 0 && variant < VARIANTS && (variants >> variant & 1) == 1;
         }
     }
 
@@ -1157,28 +1147,32 @@ public final class Spotbeat {
             }
         }
 
-        boolean isOnTrack() {
-            return pace >= 0 && pace < PACES && pace <= length;
-        }
-
         boolean isEnded() {
             return pace >= length;
         }
 
         int zonesHeld() {
-            return isOnTrack() ? zones[pace] : 0;
+            return pace >= 0 && pace < zones.length ? zones[pace] : 0;
         }
 
         int zoneClaimed() {
-            return isOnTrack() ? claims[pace] : 0;
+            return pace >= 0 && pace < claims.length ? claims[pace] : 0;
+        }
+
+        int zonesAtEnd() {
+            return length >= 0 && length < zones.length ? zones[length] : 0;
         }
 
         boolean meets(Track other) {
-            if (!isOnTrack() || !other.isOnTrack()) {
-                return false;
-            }
-            return (lowCells[pace] & other.lowCells[other.pace]) != 0L
-                    || (highCells[pace] & other.highCells[other.pace]) != 0L;
+            return (lowHeld() & other.lowHeld()) != 0L || (highHeld() & other.highHeld()) != 0L;
+        }
+
+        private long lowHeld() {
+            return pace >= 0 && pace < lowCells.length ? lowCells[pace] : 0L;
+        }
+
+        private long highHeld() {
+            return pace >= 0 && pace < highCells.length ? highCells[pace] : 0L;
         }
     }
 
@@ -1301,7 +1295,7 @@ public final class Spotbeat {
 
         boolean leavesZone() {
             for (Track track : tracks) {
-                if (track.length >= 0 && track.length < PACES && track.zones[track.length] != 0) {
+                if (track.zonesAtEnd() != 0) {
                     return true;
                 }
             }

@@ -891,6 +891,7 @@ public final class PromiseTests {
         check.fails("29 robot", INDEX, () -> x.wear(1));
         check.fails("29 robot below", INDEX, () -> x.wear(-1));
         wearByFifths();
+        wearOfFive();
     }
 
     private void wearByFifths() {
@@ -914,6 +915,22 @@ public final class PromiseTests {
         x.beat();
         check.due("29 wear 12 takes two", 1, () -> x.lacks(3));
         check.due("29 three were good", 3, () -> x.made(0));
+    }
+
+    private void wearOfFive() {
+        Spotbeat x = new Spotbeat();
+        x.panel(0);
+        x.panel(0);
+        x.spot(0, 1, 0, 1, 5, true);
+        x.station();
+        x.robot(0, 0, 1);
+        x.current(0, 5);
+        x.step(0, 0, 'w', 0);
+        x.order(0);
+        x.order(0);
+        beats(x, 3);
+        check.due("29 none yet", 0, () -> x.lacks(0));
+        check.due("29 wear 5 takes one", 1, () -> x.lacks(1));
     }
 
     private void promise30Dress() {
@@ -1149,6 +1166,23 @@ public final class PromiseTests {
         check.due("41 down to the bound", -99, () -> x.feedBack(1, 1));
         x.offset(1, 0);
         check.due("41 measure 198, half 99", -99, () -> x.feedBack(1, 1));
+        feedBackOfForty();
+    }
+
+    private void feedBackOfForty() {
+        Spotbeat x = bareLine(1);
+        for (int i = 0; i < 40; i++) {
+            x.order(0);
+        }
+        x.beat();
+        for (int i = 0; i < 40; i++) {
+            x.offset(0, 2 * i);
+            x.beat();
+        }
+        x.offset(0, 0);
+        check.due("41 the very last", -39, () -> x.feedBack(0, 1));
+        x.offset(0, 0);
+        check.due("41 nine, 78 down to 62", -35, () -> x.feedBack(0, 9));
     }
 
     private void promise42Checksum() {
@@ -1219,5 +1253,13 @@ public final class PromiseTests {
         }
         x.mend(1, 0);
         check.due("45 made by hand", true, () -> x.isSound());
+        Spotbeat blocked = bareLine(2);
+        blocked.order(0);
+        blocked.order(0);
+        beats(blocked, 2);
+        blocked.stand(1, true);
+        beats(blocked, 2);
+        check.due("45 with a body that waits on", 2, () -> blocked.letters(0, 'b'));
+        check.due("45 blocked", true, () -> blocked.isSound());
     }
 }
