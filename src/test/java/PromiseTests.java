@@ -69,42 +69,6 @@ public final class PromiseTests {
         tests.check.close();
     }
 
-    /** Two panels, a 'g' spot 0 at 22 and an 'r' spot 1 at 52, both of all variants, needs 4 and 5. */
-    private static Spotbeat twoSpots() {
-        Spotbeat x = new Spotbeat();
-        x.panel(0);
-        x.panel(0);
-        x.spot(1, 0, 22, 15, 4, true);
-        x.spot(0, 1, 52, 15, 5, false);
-        return x;
-    }
-
-    /** The same with one station and one robot, whose program for variant 0 makes both spots. */
-    private static Spotbeat oneRobot() {
-        Spotbeat x = twoSpots();
-        x.station();
-        x.robot(0, 22, 12);
-        x.step(0, 0, 'w', 0);
-        x.step(0, 0, 'm', 52);
-        x.step(0, 0, 'w', 1);
-        return x;
-    }
-
-    /** Stations without robots. */
-    private static Spotbeat bareLine(int stations) {
-        Spotbeat x = new Spotbeat();
-        for (int i = 0; i < stations; i++) {
-            x.station();
-        }
-        return x;
-    }
-
-    private static void beats(Spotbeat x, int count) {
-        for (int i = 0; i < count; i++) {
-            x.beat();
-        }
-    }
-
     private void firstExample() {
         Spotbeat x = new Spotbeat();
         check.due("e panel", 0, () -> x.panel(0));
@@ -272,7 +236,7 @@ public final class PromiseTests {
     }
 
     private void promise7Robot() {
-        Spotbeat x = bareLine(4);
+        Spotbeat x = Lines.bare(4);
         check.due("7 first", 0, () -> x.robot(0, 0, 1));
         check.fails("7 station below", INDEX, () -> x.robot(-1, 0, 1));
         check.fails("7 station above", INDEX, () -> x.robot(4, 0, 1));
@@ -298,7 +262,7 @@ public final class PromiseTests {
     }
 
     private void promise8Reaches() {
-        Spotbeat x = bareLine(1);
+        Spotbeat x = Lines.bare(1);
         x.robot(0, 53, 2);
         int[] reached = {53, 73, 33, 55, 51, 75, 31, 35, 71};
         for (int place : reached) {
@@ -329,7 +293,7 @@ public final class PromiseTests {
     }
 
     private void promise10Current() {
-        Spotbeat x = bareLine(1);
+        Spotbeat x = Lines.bare(1);
         x.robot(0, 0, 1);
         check.due("10 at first", 12, () -> x.current(0, 1));
         check.due("10 least", 1, () -> x.current(0, 30));
@@ -340,7 +304,7 @@ public final class PromiseTests {
     }
 
     private void promise11Step() {
-        Spotbeat x = twoSpots();
+        Spotbeat x = Lines.twoSpots();
         x.spot(0, 1, 3, 2, 1, true);
         x.station();
         x.robot(0, 22, 1);
@@ -371,7 +335,7 @@ public final class PromiseTests {
     }
 
     private void promise12And13EraseAndSteps() {
-        Spotbeat x = oneRobot();
+        Spotbeat x = Lines.oneRobot();
         x.step(0, 3, 'c', 1);
         check.due("13 steps", 3, () -> x.steps(0, 0));
         check.due("13 none", 0, () -> x.steps(0, 1));
@@ -388,7 +352,7 @@ public final class PromiseTests {
     }
 
     private void promise14Welds() {
-        Spotbeat x = twoSpots();
+        Spotbeat x = Lines.twoSpots();
         x.station();
         x.robot(0, 22, 12);
         check.due("14 no steps", 0, () -> x.welds(0, 0));
@@ -408,46 +372,39 @@ public final class PromiseTests {
         check.fails("14 variant", INDEX, () -> x.welds(0, 4));
     }
 
-    private static Spotbeat pair(int baseOne, int baseTwo) {
-        Spotbeat x = bareLine(1);
-        x.robot(0, baseOne, 12);
-        x.robot(0, baseTwo, 12);
-        return x;
-    }
-
     private void promise15ProofMeeting() {
-        Spotbeat alone = bareLine(2);
+        Spotbeat alone = Lines.bare(2);
         check.due("15 no robots", 'p', () -> alone.proof(0, 0));
-        Spotbeat x = pair(0, 50);
+        Spotbeat x = Lines.pair(0, 50);
         check.due("15 no steps", 'p', () -> x.proof(0, 0));
         x.step(0, 0, 'm', 40);
         check.due("15 next to each other", 'p', () -> x.proof(0, 0));
         x.step(0, 0, 'm', 50);
         check.due("15 onto the other's place", 'm', () -> x.proof(0, 0));
         check.due("15 of that variant alone", 'p', () -> x.proof(0, 1));
-        Spotbeat alongXFirst = pair(0, 30);
+        Spotbeat alongXFirst = Lines.pair(0, 30);
         alongXFirst.step(0, 0, 'm', 35);
         check.due("15 x first sweeps the other", 'm', () -> alongXFirst.proof(0, 0));
-        Spotbeat notYFirst = pair(0, 5);
+        Spotbeat notYFirst = Lines.pair(0, 5);
         notYFirst.step(0, 0, 'm', 37);
         check.due("15 y first is not swept", 'p', () -> notYFirst.proof(0, 0));
-        Spotbeat backwards = pair(37, 17);
+        Spotbeat backwards = Lines.pair(37, 17);
         backwards.step(0, 0, 'm', 0);
         check.due("15 backwards along x", 'm', () -> backwards.proof(0, 0));
-        Spotbeat corner = pair(0, 110);
+        Spotbeat corner = Lines.pair(0, 110);
         corner.step(1, 0, 'm', 117);
         corner.step(0, 0, 'm', 7);
         corner.step(0, 0, 'm', 107);
         check.due("15 the far cells apart", 'p', () -> corner.proof(0, 0));
         corner.step(0, 0, 'm', 117);
         check.due("15 the far cell shared", 'm', () -> corner.proof(0, 0));
-        Spotbeat ways = pair(0, 44);
+        Spotbeat ways = Lines.pair(0, 44);
         ways.step(0, 0, 'm', 40);
         ways.step(0, 0, 'm', 0);
         ways.step(1, 0, 'm', 40);
         check.due("15 in one of the ways", 'm', () -> ways.proof(0, 0));
         check.due("15 the states all the same", 6, () -> ways.states(0, 0));
-        Spotbeat guarded = pair(0, 114);
+        Spotbeat guarded = Lines.pair(0, 114);
         for (int robot = 0; robot < 2; robot++) {
             guarded.step(robot, 0, 'c', 2);
             guarded.step(robot, 0, 'm', 54);
@@ -456,31 +413,31 @@ public final class PromiseTests {
         }
         check.due("15 a zone keeps them apart", 'p', () -> guarded.proof(0, 0));
         check.due("15 the states with a zone", 16, () -> guarded.states(0, 0));
-        Spotbeat other = bareLine(2);
+        Spotbeat other = Lines.bare(2);
         other.robot(0, 0, 12);
         other.robot(1, 0, 12);
         check.due("15 robots of other stations do not meet", 'p', () -> other.proof(0, 0));
     }
 
     private void promise15ProofDeadlock() {
-        Spotbeat x = pair(0, 50);
+        Spotbeat x = Lines.pair(0, 50);
         x.step(0, 0, 'c', 0);
         x.step(0, 0, 'c', 1);
         x.step(1, 0, 'c', 1);
         x.step(1, 0, 'c', 0);
         check.due("15 each waits for the other", 'd', () -> x.proof(0, 0));
         check.due("16 states up to there", 6, () -> x.states(0, 0));
-        Spotbeat kept = pair(0, 50);
+        Spotbeat kept = Lines.pair(0, 50);
         kept.step(0, 0, 'c', 3);
         kept.step(1, 0, 'c', 3);
         check.due("15 a zone kept by one that has ended", 'd', () -> kept.proof(0, 0));
         check.due("16 states with it", 3, () -> kept.states(0, 0));
-        Spotbeat again = pair(0, 50);
+        Spotbeat again = Lines.pair(0, 50);
         again.step(0, 0, 'c', 0);
         again.step(0, 0, 'c', 0);
         again.step(0, 0, 'f', 0);
         check.due("15 a zone claimed twice by the same", 'p', () -> again.proof(0, 0));
-        Spotbeat three = bareLine(1);
+        Spotbeat three = Lines.bare(1);
         for (int robot = 0; robot < 3; robot++) {
             three.robot(0, 50 * robot, 12);
             three.step(robot, 0, 'c', robot);
@@ -491,12 +448,12 @@ public final class PromiseTests {
         check.due("15 three in a round", 'd', () -> three.proof(0, 0));
         three.step(0, 0, 'm', 100);
         check.due("15 m ahead of d", 'm', () -> three.proof(0, 0));
-        Spotbeat unused = pair(0, 50);
+        Spotbeat unused = Lines.pair(0, 50);
         unused.step(0, 0, 'f', 1);
         unused.step(1, 0, 'c', 1);
         unused.step(1, 0, 'f', 1);
         check.due("15 to free a zone of nobody", 'p', () -> unused.proof(0, 0));
-        Spotbeat strange = pair(0, 50);
+        Spotbeat strange = Lines.pair(0, 50);
         strange.step(0, 0, 'c', 1);
         strange.step(1, 0, 'f', 1);
         strange.step(1, 0, 'c', 1);
@@ -504,7 +461,7 @@ public final class PromiseTests {
     }
 
     private void promise15ProofZones() {
-        Spotbeat x = pair(0, 50);
+        Spotbeat x = Lines.pair(0, 50);
         x.step(0, 0, 'c', 3);
         check.due("15 ends with a zone", 'z', () -> x.proof(0, 0));
         x.step(0, 0, 'f', 2);
@@ -520,7 +477,7 @@ public final class PromiseTests {
     }
 
     private void promise15ProofWrong() {
-        Spotbeat x = pair(0, 50);
+        Spotbeat x = Lines.pair(0, 50);
         check.fails("15 station", INDEX, () -> x.proof(1, 0));
         check.fails("15 station below", INDEX, () -> x.proof(-1, 0));
         check.fails("15 variant", INDEX, () -> x.proof(0, 4));
@@ -530,7 +487,7 @@ public final class PromiseTests {
     }
 
     private void promise16States() {
-        Spotbeat x = bareLine(2);
+        Spotbeat x = Lines.bare(2);
         check.due("16 no robots", 1, () -> x.states(1, 0));
         x.robot(0, 0, 12);
         check.due("16 no steps", 1, () -> x.states(0, 0));
@@ -553,7 +510,7 @@ public final class PromiseTests {
     }
 
     private void promise17Uncovered() {
-        Spotbeat x = twoSpots();
+        Spotbeat x = Lines.twoSpots();
         x.spot(0, 1, 100, 2, 1, true);
         check.due("17 without robots", 2, () -> x.uncovered(0));
         check.due("17 variant 1", 3, () -> x.uncovered(1));
@@ -575,7 +532,7 @@ public final class PromiseTests {
     }
 
     private void promise18Deal() {
-        Spotbeat x = twoSpots();
+        Spotbeat x = Lines.twoSpots();
         check.due("18 without robots", 0, () -> x.deal(0));
         x.station();
         x.station();
@@ -598,7 +555,7 @@ public final class PromiseTests {
     }
 
     private void promise18DealChoice() {
-        Spotbeat x = twoSpots();
+        Spotbeat x = Lines.twoSpots();
         x.station();
         x.robot(0, 22, 12);
         x.robot(0, 32, 12);
@@ -643,7 +600,7 @@ public final class PromiseTests {
         none.order(0);
         check.fails("20 no stations", UNSUPPORTED, () -> none.beat());
         check.due("20 nothing changed", 0, () -> none.beats());
-        Spotbeat x = bareLine(3);
+        Spotbeat x = Lines.bare(3);
         check.due("20 nothing to do", 0, () -> x.beat());
         x.order(0);
         x.order(0);
@@ -665,12 +622,12 @@ public final class PromiseTests {
         check.due("20 off the line", 1, () -> x.beat());
         check.due("20 as told", -2, () -> x.where(0));
         check.due("20 the last is filled again", 2, () -> x.where(1));
-        Spotbeat stands = bareLine(1);
+        Spotbeat stands = Lines.bare(1);
         stands.order(0);
         stands.stand(0, true);
         stands.beat();
         check.due("20 a standing first station takes one", 0, () -> stands.at(0));
-        Spotbeat full = bareLine(1);
+        Spotbeat full = Lines.bare(1);
         full.order(0);
         full.order(0);
         full.beat();
@@ -679,7 +636,7 @@ public final class PromiseTests {
     }
 
     private void promise20BeatWorksOnce() {
-        Spotbeat x = oneRobot();
+        Spotbeat x = Lines.oneRobot();
         x.station();
         x.order(0);
         x.order(0);
@@ -696,13 +653,13 @@ public final class PromiseTests {
         x.beat();
         check.due("20 the next one worked, but kept", 0, () -> x.where(1));
         check.due("20 the wear of two", 18, () -> x.wear(0));
-        beats(x, 3);
+        Lines.beats(x, 3);
         check.due("20 no more of it", 18, () -> x.wear(0));
         check.due("20 b", 4, () -> x.letters(0, 'b'));
     }
 
     private void promise20NewStation() {
-        Spotbeat x = bareLine(1);
+        Spotbeat x = Lines.bare(1);
         x.order(0);
         x.beat();
         x.station();
@@ -716,16 +673,16 @@ public final class PromiseTests {
         check.fails("21 a beat that fails", UNSUPPORTED, () -> x.beat());
         check.due("21 does not count", 0, () -> x.beats());
         x.station();
-        beats(x, 5);
+        Lines.beats(x, 5);
         check.due("21 beats", 5, () -> x.beats());
     }
 
     private void promise22At() {
-        Spotbeat x = bareLine(2);
+        Spotbeat x = Lines.bare(2);
         check.fails("22 none", NO_ELEMENT, () -> x.at(0));
         x.order(0);
         x.order(0);
-        beats(x, 2);
+        Lines.beats(x, 2);
         check.due("22 first", 1, () -> x.at(0));
         check.due("22 second", 0, () -> x.at(1));
         x.beat();
@@ -735,7 +692,7 @@ public final class PromiseTests {
     }
 
     private void promise23Where() {
-        Spotbeat x = bareLine(1);
+        Spotbeat x = Lines.bare(1);
         x.order(0);
         check.due("23 waits", -1, () -> x.where(0));
         x.beat();
@@ -748,19 +705,19 @@ public final class PromiseTests {
     }
 
     private void promise24Waiting() {
-        Spotbeat x = bareLine(1);
+        Spotbeat x = Lines.bare(1);
         check.due("24 none", 0, () -> x.waiting());
         x.order(0);
         x.order(1);
         check.due("24 two", 2, () -> x.waiting());
         x.beat();
         check.due("24 one", 1, () -> x.waiting());
-        beats(x, 2);
+        Lines.beats(x, 2);
         check.due("24 none any more", 0, () -> x.waiting());
     }
 
     private void promise25Stand() {
-        Spotbeat x = bareLine(2);
+        Spotbeat x = Lines.bare(2);
         check.due("25 did not stand", false, () -> x.stand(1, true));
         check.due("25 stood", true, () -> x.stand(1, true));
         check.due("25 stood till now", true, () -> x.stand(1, false));
@@ -771,7 +728,7 @@ public final class PromiseTests {
     }
 
     private void promise26Letters() {
-        Spotbeat x = bareLine(2);
+        Spotbeat x = Lines.bare(2);
         x.order(0);
         x.order(0);
         x.beat();
@@ -804,23 +761,23 @@ public final class PromiseTests {
     }
 
     private void promise27Die() {
-        Spotbeat x = oneRobot();
+        Spotbeat x = Lines.oneRobot();
         check.due("27 alive", false, () -> x.die(0, true));
         check.due("27 dead", true, () -> x.die(0, true));
         check.fails("27 robot", INDEX, () -> x.die(1, true));
         check.fails("27 robot below", INDEX, () -> x.die(-1, true));
         x.order(0);
-        beats(x, 2);
+        Lines.beats(x, 2);
         check.due("27 a dead one makes nothing", 2, () -> x.lacks(0));
         check.due("27 nor wears its tip", 0, () -> x.wear(0));
         check.due("27 dead till now", true, () -> x.die(0, false));
         x.order(0);
-        beats(x, 2);
+        Lines.beats(x, 2);
         check.due("27 alive again it does", 0, () -> x.lacks(1));
     }
 
     private void promise28StandIn() {
-        Spotbeat x = pair(0, 50);
+        Spotbeat x = Lines.pair(0, 50);
         check.due("28 nobody", -1, () -> x.standIn(0, 1));
         check.due("28 the other", 1, () -> x.standIn(0, -1));
         check.due("28 nobody again", -1, () -> x.standIn(0, -1));
@@ -837,7 +794,7 @@ public final class PromiseTests {
     }
 
     private void promise28StandInWelds() {
-        Spotbeat x = oneRobot();
+        Spotbeat x = Lines.oneRobot();
         x.station();
         x.robot(1, 33, 1);
         x.robot(1, 50, 12);
@@ -845,7 +802,7 @@ public final class PromiseTests {
         x.standIn(0, 1);
         x.standIn(1, 2);
         x.order(0);
-        beats(x, 2);
+        Lines.beats(x, 2);
         check.due("28 made by the one that reaches it", 1, () -> x.maker(0, 0));
         check.due("28 what it does not reach is lacking", 1, () -> x.firstLacking(0));
         check.due("28 its own tip", 4, () -> x.wear(1));
@@ -855,37 +812,37 @@ public final class PromiseTests {
         x.current(0, 30);
         x.current(1, 3);
         x.order(0);
-        beats(x, 2);
+        Lines.beats(x, 2);
         check.due("28 its own current", 2, () -> x.lacks(1));
         check.due("28 wears all the same", 8, () -> x.wear(1));
         x.current(1, 30);
         x.die(1, true);
         x.order(0);
-        beats(x, 2);
+        Lines.beats(x, 2);
         check.due("28 a dead one stands in for nobody", 2, () -> x.lacks(2));
         x.standIn(0, 2);
         x.order(0);
-        beats(x, 2);
+        Lines.beats(x, 2);
         check.due("28 another one of another station", 0, () -> x.lacks(3));
         check.due("28 as maker", 2, () -> x.maker(3, 1));
         x.die(0, false);
         x.order(0);
-        beats(x, 2);
+        Lines.beats(x, 2);
         check.due("28 alive it makes its own", 0, () -> x.maker(4, 0));
     }
 
     private void promise29Wear() {
-        Spotbeat x = oneRobot();
+        Spotbeat x = Lines.oneRobot();
         check.due("29 none", 0, () -> x.wear(0));
         x.order(0);
         x.order(1);
-        beats(x, 2);
+        Lines.beats(x, 2);
         check.due("29 the needs of both", 9, () -> x.wear(0));
         x.beat();
         check.due("29 no program, no wear", 9, () -> x.wear(0));
         x.current(0, 1);
         x.order(0);
-        beats(x, 2);
+        Lines.beats(x, 2);
         check.due("29 good or not", 18, () -> x.wear(0));
         check.due("29 not good", 2, () -> x.lacks(2));
         check.fails("29 robot", INDEX, () -> x.wear(1));
@@ -906,7 +863,7 @@ public final class PromiseTests {
         for (int i = 0; i < 4; i++) {
             x.order(0);
         }
-        beats(x, 2);
+        Lines.beats(x, 2);
         check.due("29 new tip", 0, () -> x.lacks(0));
         x.beat();
         check.due("29 wear 4 takes nothing", 0, () -> x.lacks(1));
@@ -928,22 +885,22 @@ public final class PromiseTests {
         x.step(0, 0, 'w', 0);
         x.order(0);
         x.order(0);
-        beats(x, 3);
+        Lines.beats(x, 3);
         check.due("29 none yet", 0, () -> x.lacks(0));
         check.due("29 wear 5 takes one", 1, () -> x.lacks(1));
     }
 
     private void promise30Dress() {
-        Spotbeat x = oneRobot();
+        Spotbeat x = Lines.oneRobot();
         x.order(0);
-        beats(x, 2);
+        Lines.beats(x, 2);
         check.due("30 first", 4, () -> x.dress(0));
         check.due("30 no wear", 0, () -> x.wear(0));
         for (int left = 3; left >= 0; left--) {
             check.due("30 left " + left, left, () -> x.dress(0));
         }
         x.order(0);
-        beats(x, 2);
+        Lines.beats(x, 2);
         check.fails("30 to be changed", UNSUPPORTED, () -> x.dress(0));
         check.due("30 keeps its wear", 9, () -> x.wear(0));
         check.fails("30 robot", INDEX, () -> x.dress(1));
@@ -953,9 +910,9 @@ public final class PromiseTests {
     }
 
     private void promise31Change() {
-        Spotbeat x = oneRobot();
+        Spotbeat x = Lines.oneRobot();
         x.order(0);
-        beats(x, 2);
+        Lines.beats(x, 2);
         check.due("31 never dressed", 0, () -> x.change(0));
         check.due("31 no wear", 0, () -> x.wear(0));
         for (int i = 0; i < 5; i++) {
@@ -968,14 +925,14 @@ public final class PromiseTests {
     }
 
     private void promise32Made() {
-        Spotbeat x = twoSpots();
+        Spotbeat x = Lines.twoSpots();
         x.station();
         x.robot(0, 22, 12);
         x.step(0, 0, 'w', 0);
         x.step(0, 0, 'w', 0);
         check.due("32 none", 0, () -> x.made(0));
         x.order(0);
-        beats(x, 2);
+        Lines.beats(x, 2);
         check.due("32 those not lacking too", 2, () -> x.made(0));
         x.erase(0, 0);
         x.step(0, 0, 'm', 52);
@@ -983,23 +940,23 @@ public final class PromiseTests {
         x.step(0, 0, 'm', 22);
         x.step(0, 0, 'w', 0);
         x.order(0);
-        beats(x, 2);
+        Lines.beats(x, 2);
         check.due("32 an r spot ahead of its g spots is not good", 3, () -> x.made(0));
         check.due("32 so it is lacking", 1, () -> x.firstLacking(1));
         check.due("32 but wore", 17, () -> x.wear(0));
         x.current(0, 4);
         x.order(0);
-        beats(x, 2);
+        Lines.beats(x, 2);
         check.due("32 too weak", 3, () -> x.made(0));
         check.fails("32 robot", INDEX, () -> x.made(1));
         check.fails("32 robot below", INDEX, () -> x.made(-1));
     }
 
     private void promise33Lacks() {
-        Spotbeat x = oneRobot();
+        Spotbeat x = Lines.oneRobot();
         x.order(0);
         check.due("33 as it waits", 2, () -> x.lacks(0));
-        beats(x, 2);
+        Lines.beats(x, 2);
         check.due("33 off the line", 0, () -> x.lacks(0));
         x.spot(0, 1, 0, 1, 1, true);
         check.due("33 one told later", 1, () -> x.lacks(0));
@@ -1010,13 +967,13 @@ public final class PromiseTests {
     }
 
     private void promise34IsLacking() {
-        Spotbeat x = oneRobot();
+        Spotbeat x = Lines.oneRobot();
         x.spot(0, 1, 0, 14, 1, false);
         x.order(0);
         x.order(1);
         check.due("34 lacking", true, () -> x.isLacking(0, 0));
         check.due("34 not of its variant", false, () -> x.isLacking(0, 2));
-        beats(x, 2);
+        Lines.beats(x, 2);
         check.due("34 made", false, () -> x.isLacking(0, 0));
         check.due("34 the next one's", true, () -> x.isLacking(1, 0));
         check.fails("34 body", INDEX, () -> x.isLacking(2, 0));
@@ -1026,11 +983,11 @@ public final class PromiseTests {
     }
 
     private void promise35FirstLacking() {
-        Spotbeat x = oneRobot();
+        Spotbeat x = Lines.oneRobot();
         x.order(0);
         check.due("35 the lowest", 0, () -> x.firstLacking(0));
         x.current(0, 4);
-        beats(x, 2);
+        Lines.beats(x, 2);
         check.due("35 the next", 1, () -> x.firstLacking(0));
         x.mend(0, 1);
         check.fails("35 none", NO_ELEMENT, () -> x.firstLacking(0));
@@ -1039,7 +996,7 @@ public final class PromiseTests {
     }
 
     private void promise36Mend() {
-        Spotbeat x = twoSpots();
+        Spotbeat x = Lines.twoSpots();
         x.spot(0, 1, 0, 14, 1, false);
         x.station();
         x.order(0);
@@ -1059,7 +1016,7 @@ public final class PromiseTests {
     }
 
     private void promise37Maker() {
-        Spotbeat x = oneRobot();
+        Spotbeat x = Lines.oneRobot();
         x.spot(0, 1, 0, 14, 1, false);
         x.robot(0, 23, 12);
         x.step(1, 0, 'm', 22);
@@ -1067,7 +1024,7 @@ public final class PromiseTests {
         x.current(0, 4);
         x.order(0);
         check.fails("37 lacking", NO_ELEMENT, () -> x.maker(0, 0));
-        beats(x, 2);
+        Lines.beats(x, 2);
         check.due("37 who made it first", 0, () -> x.maker(0, 0));
         check.due("37 though another one did, too", 1, () -> x.made(1));
         check.fails("37 too weak", NO_ELEMENT, () -> x.maker(0, 1));
@@ -1081,7 +1038,7 @@ public final class PromiseTests {
     }
 
     private void promise38Whole() {
-        Spotbeat x = oneRobot();
+        Spotbeat x = Lines.oneRobot();
         x.order(0);
         x.order(1);
         check.due("38 none", 0, () -> x.whole());
@@ -1089,22 +1046,22 @@ public final class PromiseTests {
         x.station();
         x.beat();
         check.due("38 not on the line", 0, () -> x.whole());
-        beats(x, 3);
+        Lines.beats(x, 3);
         check.due("38 one of two", 1, () -> x.whole());
         x.mend(1, 0);
         x.mend(1, 1);
         check.due("38 both", 2, () -> x.whole());
         x.spot(0, 1, 0, 2, 1, false);
         check.due("38 one told later", 1, () -> x.whole());
-        Spotbeat bare = bareLine(1);
+        Spotbeat bare = Lines.bare(1);
         bare.order(0);
         check.due("38 one that waits", 0, () -> bare.whole());
-        beats(bare, 2);
+        Lines.beats(bare, 2);
         check.due("38 nothing to lack", 1, () -> bare.whole());
     }
 
     private void promise39Offset() {
-        Spotbeat x = bareLine(2);
+        Spotbeat x = Lines.bare(2);
         check.due("39 at first", 0, () -> x.offset(0, 99));
         check.due("39 most", 99, () -> x.offset(0, -99));
         check.fails("39 above", ARGUMENT, () -> x.offset(0, 100));
@@ -1117,7 +1074,7 @@ public final class PromiseTests {
     }
 
     private void promise40Measure() {
-        Spotbeat x = twoSpots();
+        Spotbeat x = Lines.twoSpots();
         x.spot(0, 1, 0, 1, 1, false);
         x.station();
         x.station();
@@ -1125,7 +1082,7 @@ public final class PromiseTests {
         x.offset(1, -7);
         x.order(0);
         check.fails("40 waits", NO_ELEMENT, () -> x.measure(0));
-        beats(x, 2);
+        Lines.beats(x, 2);
         check.fails("40 on the line", NO_ELEMENT, () -> x.measure(0));
         x.offset(1, -8);
         x.beat();
@@ -1139,7 +1096,7 @@ public final class PromiseTests {
     }
 
     private void promise41FeedBack() {
-        Spotbeat x = bareLine(2);
+        Spotbeat x = Lines.bare(2);
         check.fails("41 none is off", NO_ELEMENT, () -> x.feedBack(0, 1));
         check.fails("41 no bodies", ARGUMENT, () -> x.feedBack(0, 0));
         check.fails("41 ten bodies", ARGUMENT, () -> x.feedBack(0, 10));
@@ -1148,7 +1105,7 @@ public final class PromiseTests {
         int[] offsets = {10, -15, -20};
         for (int i = 0; i < 3; i++) {
             x.order(0);
-            beats(x, 2);
+            Lines.beats(x, 2);
             x.offset(0, offsets[i]);
             x.beat();
         }
@@ -1161,7 +1118,7 @@ public final class PromiseTests {
         check.due("41 up to the bound", 99, () -> x.feedBack(1, 1));
         x.offset(0, 99);
         x.order(0);
-        beats(x, 3);
+        Lines.beats(x, 3);
         x.offset(1, -99);
         check.due("41 down to the bound", -99, () -> x.feedBack(1, 1));
         x.offset(1, 0);
@@ -1170,7 +1127,7 @@ public final class PromiseTests {
     }
 
     private void feedBackOfForty() {
-        Spotbeat x = bareLine(1);
+        Spotbeat x = Lines.bare(1);
         for (int i = 0; i < 40; i++) {
             x.order(0);
         }
@@ -1186,7 +1143,7 @@ public final class PromiseTests {
     }
 
     private void promise42Checksum() {
-        Spotbeat x = twoSpots();
+        Spotbeat x = Lines.twoSpots();
         x.station();
         x.order(0);
         check.due("42 waits", 31L * 7 - 1 + 2, () -> x.checksum());
@@ -1208,7 +1165,7 @@ public final class PromiseTests {
     }
 
     private void promise43WholeShare() {
-        Spotbeat x = oneRobot();
+        Spotbeat x = Lines.oneRobot();
         check.fails("43 none is off", NO_ELEMENT, () -> x.wholeShare());
         x.order(0);
         x.order(1);
@@ -1217,24 +1174,24 @@ public final class PromiseTests {
         check.fails("43 none is off yet", NO_ELEMENT, () -> x.wholeShare());
         x.beat();
         check.due("43 all", 1.0f, () -> x.wholeShare());
-        beats(x, 2);
+        Lines.beats(x, 2);
         check.due("43 two of three", 2.0f / 3.0f, () -> x.wholeShare());
     }
 
     private void promise44MeanMeasure() {
-        Spotbeat x = bareLine(1);
+        Spotbeat x = Lines.bare(1);
         check.fails("44 none is off", NO_ELEMENT, () -> x.meanMeasure());
         int[] offsets = {-7, 3, -6};
         for (int offset : offsets) {
             x.offset(0, offset);
             x.order(0);
-            beats(x, 2);
+            Lines.beats(x, 2);
         }
         check.due("44 of three", -10.0 / 3.0, () -> x.meanMeasure());
     }
 
     private void promise45IsSound() {
-        Spotbeat x = oneRobot();
+        Spotbeat x = Lines.oneRobot();
         check.due("45 at first", true, () -> x.isSound());
         x.robot(0, 117, 1);
         x.die(0, true);
@@ -1253,12 +1210,12 @@ public final class PromiseTests {
         }
         x.mend(1, 0);
         check.due("45 made by hand", true, () -> x.isSound());
-        Spotbeat blocked = bareLine(2);
+        Spotbeat blocked = Lines.bare(2);
         blocked.order(0);
         blocked.order(0);
-        beats(blocked, 2);
+        Lines.beats(blocked, 2);
         blocked.stand(1, true);
-        beats(blocked, 2);
+        Lines.beats(blocked, 2);
         check.due("45 with a body that waits on", 2, () -> blocked.letters(0, 'b'));
         check.due("45 blocked", true, () -> blocked.isSound());
     }
